@@ -535,7 +535,7 @@ public final class HoldSlips {
         }
     }
 
-    /** The bytes of a tape as tokens, one at a time; a sign's token is its byte. */
+    /** The bytes of a tape as tokens, one at a time; words that a decree keeps have its numbers, signs their byte. */
     private static final class TokenReader {
         static final int AT_END = 0;
         static final int IF = 9;
@@ -854,18 +854,13 @@ public final class HoldSlips {
             return has(one) && has(other) && one != other;
         }
 
-        /** Going back to an image may leave an older citizen's numbers in the place: all are set. */
+        /** The place is new, all 0: no citizen goes, and an image is copied with its empty places. */
         int enter(int itsRank, boolean isWidow) {
             if (number >= MOST_CITIZENS) {
                 return NONE;
             }
             rank[number] = itsRank;
             widow[number] = isWidow;
-            slips[number] = 0;
-            given[number] = 0;
-            silver[number] = 0;
-            returns[number] = 0;
-            rents[number] = 0;
             number++;
             return number - 1;
         }
@@ -1144,8 +1139,6 @@ public final class HoldSlips {
             bound = now.rules.bound;
             load = now.rules.load;
             found = false;
-            bestValue = 0;
-            bestSlips = 0;
             for (int i = 0; i < now.people.number; i++) {
                 free[i] = now.freeSlips(i);
             }
@@ -1198,7 +1191,7 @@ public final class HoldSlips {
             layFrom(s, depth + 1, value, slips, tilt, weight);
         }
 
-        /** Neither can the ship bear any row below, or none below goes before the best so far. */
+        /** The ship can bear no row below, or none below goes before the best so far. */
         private boolean isHopeless(int depth, int laidValue, int slips, int tilt, int laidWeight) {
             if (laidWeight > load || Math.abs(tilt) - weightFrom[depth] > bound) {
                 return true;
@@ -1257,11 +1250,8 @@ public final class HoldSlips {
             return within(year, 0, LAST_YEAR - 1) && within(what, 0, COLUMNS - 1);
         }
 
-        /** Going back to an image may leave numbers in the row: all are set. */
+        /** The row is new, all 0: an image is copied with the rows of the years to come. */
         void open(int year, int given, Bales cargo) {
-            for (int what = 0; what < COLUMNS; what++) {
-                put(year, what, 0);
-            }
             put(year, GIVEN, given);
             put(year, BALES, cargo.number - cargo.waiting());
             put(year, VALUE, cargo.judged(ALL_OPENED, 0));

@@ -11,6 +11,7 @@ public final class PromisesTest {
         shares();
         citizens();
         rules();
+        firstRules();
         giving();
         selling();
         bales();
@@ -28,6 +29,7 @@ public final class PromisesTest {
         lastYear();
         images();
         imagesHoldAll();
+        imagesHoldEveryAnswer();
         System.out.println(wrong == 0 ? "all promises hold" : wrong + " answers are not as due");
         if (wrong != 0) {
             System.exit(1);
@@ -325,6 +327,7 @@ public final class PromisesTest {
         no("give again", x.give(10));
         x.again(0);
         yes("give 1", x.give(1));
+        no("once a year, be it one", x.give(1));
         due("the least of the greatest rests", x.tell(0, 3), 1);
         due("not the one of a lesser rest", x.tell(3, 3), 0);
         x.again(0);
@@ -418,6 +421,39 @@ public final class PromisesTest {
         due("bale at sea", x.bale(0, 1, 1, 1), -1);
     }
 
+    private static void firstRules() {
+        HoldSlips x = ship(1, 400);
+        for (int i = 0; i < 5; i++) {
+            x.bale(0, 1, 200, 200);
+            x.lade(i, 0, i % 2);
+        }
+        x.bale(0, 1, 100, 1);
+        x.bale(0, 1, 1, 1);
+        no("tilt 200 of 100", x.sail());
+        x.unlade(4);
+        x.lade(5, 0, 0);
+        yes("tilt 100 of 100", tries(x));
+        x.lade(6, 0, 0);
+        no("tilt 101 of 100", tries(x));
+        x.rule(0, 2400);
+        x.unlade(5);
+        x.lade(4, 0, 0);
+        no("weight 1001 of 1000", tries(x));
+        x.unlade(6);
+        yes("weight 1000 of 1000", tries(x));
+        due("value 1000 of a permit of 1000", x.board(-1, 0, 0, 2), 0);
+        x.lade(6, 0, 0);
+        due("value 1001", x.board(-1, 0, 0, 2), 1);
+    }
+
+    /** Whether the ship would sail; it stays. */
+    private static boolean tries(HoldSlips x) {
+        x.image(2);
+        boolean sails = x.sail();
+        x.again(2);
+        return sails;
+    }
+
     private static void pressing() {
         HoldSlips x = ship(1, 100);
         x.bale(0, 39, 10, 999);
@@ -447,6 +483,10 @@ public final class PromisesTest {
         due("its value", x.about(1, 6), 6);
         yes("sail", x.sail());
         no("press at sea", x.press(0, 1));
+        x.ends(false);
+        x.bale(0, 10, 1, 100);
+        due("next year's bale is not pressed", x.about(0, 4), 0);
+        due("its room", x.about(0, 5), 10);
     }
 
     private static void lading() {
@@ -781,6 +821,12 @@ public final class PromisesTest {
         x.rule(3, 0);
         x.ends(false);
         due("rent 0", x.book(0, 7), 0);
+        HoldSlips z = ship(1, 13);
+        z.bale(0, 13, 1, 1000);
+        z.lade(0, 0, 0);
+        z.sail();
+        z.ends(false);
+        bookRow(z, 0, 13, 1, 1000, 1, 176, 1760, 176, 0, 0);
         HoldSlips y = ship(2, 80);
         y.rule(3, 9);
         y.bale(0, 40, 1, 11);
@@ -893,5 +939,110 @@ public final class PromisesTest {
         due("share", x.tell(0, 2), 3);
         due("a citizen anew", x.citizen(0, false), 2);
         due("without silver", x.tell(2, 5), 0);
+    }
+
+    private static HoldSlips wealthy() {
+        HoldSlips x = ship(4, 200);
+        x.bale(0, 20, 60, 300);
+        x.lade(0, 1, 0);
+        x.sail();
+        x.ends(false);
+        x.sail();
+        x.ends(true);
+        x.give(240);
+        x.rule(0, 70);
+        x.rule(1, 130);
+        x.rule(2, 333);
+        x.rule(3, 4);
+        x.bale(3, 11, 60, 401);
+        x.bale(2, 12, 61, 402);
+        x.bale(1, 13, 62, 403);
+        x.press(0, 1);
+        x.press(2, 3);
+        x.lade(0, 2, 1);
+        x.best();
+        x.lade(1, 3, 0);
+        x.loan(3, 1, 100, 7);
+        x.loan(2, 0, 200, 9);
+        x.sell(3, 0, 5, 77);
+        decree(x, "share 1;!");
+        feedText(x, "if widow and not rank=3 and year>1 and lost<4: share 17; plus 2;");
+        return x;
+    }
+
+    /** Another ship in the same object, with as many of all as it bears. */
+    private static void turnUpsideDown(HoldSlips x) {
+        x.end(0);
+        feedText(x, "none;".repeat(20));
+        decree(x, "none;".repeat(3));
+        decree(x, "share 8; if rank<2 or");
+        for (int i = 0; i < 8; i++) {
+            x.citizen(9, true);
+        }
+        x.sell(0, 3, 9, 5000);
+        for (int what = 0; what < 4; what++) {
+            x.rule(what, 9);
+        }
+        for (int i = 0; i < 3; i++) {
+            x.unlade(i);
+            x.press(i, 2);
+        }
+        x.rule(0, 2400);
+        x.rule(1, 2400);
+        x.best();
+        x.ladeBest();
+        x.sail();
+        x.ends(false);
+        for (int i = 0; i < 12; i++) {
+            x.bale(7, 1, 2, 3);
+        }
+        for (int i = 0; i < 20; i++) {
+            x.loan(7, 6, 5, 4);
+        }
+        x.sail();
+        x.ends(true);
+        x.bale(6, 5, 4, 3);
+    }
+
+    private static String picture(HoldSlips x) {
+        StringBuilder s = new StringBuilder();
+        for (int what = 0; what <= 9; what++) {
+            s.append(x.count(what)).append(' ');
+        }
+        for (int i = 0; i <= 4; i++) {
+            for (int what = 0; what <= 8; what++) {
+                s.append(i < 4 ? x.tell(i, what) : x.tell(i, 0)).append(' ');
+                s.append(i < 3 ? x.about(i, what) : 0).append(' ');
+                s.append(i < 3 ? x.book(i, what) : 0).append(' ');
+            }
+            s.append(x.bestSide(i)).append('\n');
+        }
+        s.append(x.fault(0)).append(' ').append(x.fault(1)).append(' ').append(x.board(1, 30, 40, 2));
+        return s.toString();
+    }
+
+    /** What follows from the state that no call tells at once: tape, decree, rules, loans. */
+    private static String future(HoldSlips x) {
+        StringBuilder s = new StringBuilder();
+        s.append(x.give(9)).append(x.sail()).append(x.ends(false)).append('\n').append(picture(x));
+        s.append(x.end(65)).append(' ').append(x.decree()).append(' ').append(x.tell(1, 2)).append(x.tell(3, 2));
+        return s.toString();
+    }
+
+    private static void imagesHoldEveryAnswer() {
+        String before = picture(wealthy());
+        String after = future(wealthy());
+        HoldSlips x = wealthy();
+        yes("image", x.image(0));
+        turnUpsideDown(x);
+        yes("another picture", !before.equals(picture(x)));
+        yes("again", x.again(0));
+        yes("the picture of image 0", before.equals(picture(x)));
+        HoldSlips y = wealthy();
+        yes("image", y.image(1));
+        turnUpsideDown(y);
+        yes("image", y.image(2));
+        yes("again", y.again(1));
+        yes("what follows from image 1", after.equals(future(y)));
     }
 }
