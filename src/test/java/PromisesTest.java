@@ -195,6 +195,13 @@ public final class PromisesTest {
         faulty("none;" + (char) 187, 1, 5);
         faulty("non" + (char) 229, 1, 0);
 
+        bytesBehindTheEnd("nonesuch;", 4, 4);
+        bytesBehindTheEnd("share 123;", 7, 7);
+        bytesBehindTheEnd("if rank<1234:none;", 9, 9);
+        bytesBehindTheEnd("none;widow", 6, 5);
+        faulty("none;".repeat(79) + " none", 1, 400);
+        faulty("none;".repeat(79) + "plus5", 1, 400);
+
         HoldSlips x = new HoldSlips();
         x.citizen(0, false);
         decree(x, "share 4;");
@@ -212,7 +219,21 @@ public final class PromisesTest {
         due("share by none", x.tell(0, 2), 0);
     }
 
+    private static void bytesBehindTheEnd(String text, int end, int place) {
+        HoldSlips x = new HoldSlips();
+        feedText(x, text);
+        x.end(end);
+        due("decree '" + text + "' to " + end, x.decree(), -1);
+        due("fault of '" + text + "' to " + end, x.fault(0), 1);
+        due("place in '" + text + "' to " + end, x.fault(1), place);
+    }
+
     private static void manyLinesAndTests() {
+        HoldSlips x = new HoldSlips();
+        due("17 lines", decree(x, "none;".repeat(17)), -1);
+        due("one line after them", decree(x, "none;"), 1);
+        due("no fault is left", x.fault(0), 0);
+
         String sixteen = "none;".repeat(16);
         sound(sixteen, 16);
         sound("none;".repeat(15) + "if widow and widow and widow and widow:none;", 16);
@@ -889,6 +910,15 @@ public final class PromisesTest {
         x.again(2);
         x.again(1);
         due("year 1", x.count(4), 1);
+        HoldSlips y = new HoldSlips();
+        y.image(0);
+        y.citizen(5, true);
+        y.image(1);
+        y.again(0);
+        y.citizen(2, false);
+        y.again(1);
+        due("rank of image 1's", y.tell(0, 0), 5);
+        due("widow of image 1's", y.tell(0, 1), 1);
     }
 
     private static void imagesHoldAll() {
@@ -952,7 +982,7 @@ public final class PromisesTest {
         x.give(240);
         x.rule(0, 70);
         x.rule(1, 130);
-        x.rule(2, 333);
+        x.rule(2, 500);
         x.rule(3, 4);
         x.bale(3, 11, 60, 401);
         x.bale(2, 12, 61, 402);
@@ -990,6 +1020,7 @@ public final class PromisesTest {
         x.rule(0, 2400);
         x.rule(1, 2400);
         x.best();
+        x.lade(0, 1, 0);
         x.ladeBest();
         x.sail();
         x.ends(false);
@@ -1024,7 +1055,7 @@ public final class PromisesTest {
     /** What follows from the state that no call tells at once: tape, decree, rules, loans. */
     private static String future(HoldSlips x) {
         StringBuilder s = new StringBuilder();
-        s.append(x.give(9)).append(x.sail()).append(x.ends(false)).append('\n').append(picture(x));
+        s.append(x.best()).append(x.give(9)).append(x.sail()).append(x.ends(false)).append('\n').append(picture(x));
         s.append(x.end(65)).append(' ').append(x.decree()).append(' ').append(x.tell(1, 2)).append(x.tell(3, 2));
         return s.toString();
     }
