@@ -215,7 +215,7 @@ public final class HoldSlips {
         }
         switch (what) {
             case 0: return people.rank[citizen];
-            case 1: return people.widow[citizen] ? 1 : 0;
+            case 1: return people.widow[citizen];
             case 2: return now.shareOf(citizen);
             case 3: return people.slips[citizen];
             case 4: return now.freeSlips(citizen);
@@ -455,7 +455,7 @@ public final class HoldSlips {
         final int[] action = new int[MOST_LINES];
         final int[] amount = new int[MOST_LINES];
         final int[] tests = new int[MOST_LINES];
-        final boolean[] negated = new boolean[MOST_LINES * MOST_TESTS];
+        final int[] negated = new int[MOST_LINES * MOST_TESTS];
         final int[] subject = new int[MOST_LINES * MOST_TESTS];
         final int[] sign = new int[MOST_LINES * MOST_TESTS];
         final int[] limit = new int[MOST_LINES * MOST_TESTS];
@@ -465,7 +465,7 @@ public final class HoldSlips {
             copyRow(other.action, action);
             copyRow(other.amount, amount);
             copyRow(other.tests, tests);
-            System.arraycopy(other.negated, 0, negated, 0, negated.length);
+            copyRow(other.negated, negated);
             copyRow(other.subject, subject);
             copyRow(other.sign, sign);
             copyRow(other.limit, limit);
@@ -484,7 +484,7 @@ public final class HoldSlips {
         void putTest(int line, int test, boolean not, int itsSubject, int itsSign, int itsLimit) {
             if (line >= 0 && line < MOST_LINES && test >= 0 && test < MOST_TESTS) {
                 int at = line * MOST_TESTS + test;
-                negated[at] = not;
+                negated[at] = not ? 1 : 0;
                 subject[at] = itsSubject;
                 sign[at] = itsSign;
                 limit[at] = itsLimit;
@@ -509,7 +509,7 @@ public final class HoldSlips {
             int first = line * MOST_TESTS;
             for (int at = first; at < first + tests[line]; at++) {
                 int told = subjectOf(subject[at], people, citizen, year, lost);
-                if (agrees(told, sign[at], limit[at]) == negated[at]) {
+                if (agrees(told, sign[at], limit[at]) == (negated[at] == 1)) {
                     return false;
                 }
             }
@@ -522,7 +522,7 @@ public final class HoldSlips {
                 case YEAR: return year;
                 case SLIPS: return people.given[citizen];
                 case LOST: return lost;
-                default: return people.widow[citizen] ? 1 : 0;
+                default: return people.widow[citizen];
             }
         }
 
@@ -825,7 +825,7 @@ public final class HoldSlips {
     private static final class Citizens {
         int number = 0;
         final int[] rank = new int[MOST_CITIZENS];
-        final boolean[] widow = new boolean[MOST_CITIZENS];
+        final int[] widow = new int[MOST_CITIZENS];
         final int[] slips = new int[MOST_CITIZENS];
         final int[] given = new int[MOST_CITIZENS];
         final int[] silver = new int[MOST_CITIZENS];
@@ -838,7 +838,7 @@ public final class HoldSlips {
         void copyFrom(Citizens other) {
             number = other.number;
             copyRow(other.rank, rank);
-            System.arraycopy(other.widow, 0, widow, 0, MOST_CITIZENS);
+            copyRow(other.widow, widow);
             copyRow(other.slips, slips);
             copyRow(other.given, given);
             copyRow(other.silver, silver);
@@ -860,7 +860,7 @@ public final class HoldSlips {
                 return NONE;
             }
             rank[number] = itsRank;
-            widow[number] = isWidow;
+            widow[number] = isWidow ? 1 : 0;
             number++;
             return number - 1;
         }
