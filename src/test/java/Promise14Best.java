@@ -236,6 +236,28 @@ public final class Promise14Best extends Checks {
         none("ladeBest", x.ladeBest());
     }
 
+    /** A search that has more bales before it leaves nothing to one that has fewer. */
+    static void knowsNothingOfTheOneBefore() {
+        HoldSlips x = ship(1, 400);
+        for (int i = 0; i < 3; i++) {
+            x.bale(0, 1, 100, 10);
+        }
+        best(x, 30, 0, 0, 1);
+        x.lade(0, 0, 0);
+        x.lade(1, 0, 0);
+        best(x, 10, 2, 2, 1);
+        x.rule(0, 2400);
+        best(x, 10, 2, 2, 0);
+        HoldSlips y = ship(1, 400);
+        y.bale(0, 10, 60, 10);
+        y.bale(0, 5, 60, 10);
+        y.bale(0, 40, 60, 10);
+        best(y, 30, 0, 0, 1);
+        y.lade(2, 0, 1);
+        y.rule(1, 120);
+        best(y, 10, 2, 0, 2);
+    }
+
     static void laysNothingItself() {
         HoldSlips x = ship(1, 400);
         x.bale(0, 1, 50, 7);

@@ -32,6 +32,20 @@ public final class Promise16LadeBest extends Checks {
         yes("the ship bears it", x.sail());
     }
 
+    static void laysThemAmongTwelve() {
+        HoldSlips x = ship(1, 400);
+        for (int i = 0; i < 12; i++) {
+            x.bale(0, 1, 1, 1);
+        }
+        for (int i = 0; i < 3; i++) {
+            yes("lade", x.lade(i, 0, 1));
+        }
+        due("best", x.best(), 9);
+        due("ladeBest", x.ladeBest(), 9);
+        due("they lie", x.count(2), 12);
+        due("TILT", x.count(7), 6);
+    }
+
     static void laysNoneThatWaitsOn() {
         HoldSlips x = ship(1, 10);
         x.bale(0, 6, 1, 50);

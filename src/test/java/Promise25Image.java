@@ -144,6 +144,37 @@ public final class Promise25Image extends Checks {
         yes("BOUND 100", x.sail());
     }
 
+    static void keepsTheRules() {
+        HoldSlips x = ship(2, 40);
+        x.bale(0, 10, 30, 100);
+        x.lade(0, 1, 0);
+        int[] rules = {30, 30, 100, 4};
+        for (int what = 0; what < 4; what++) {
+            x.rule(what, rules[what]);
+        }
+        x.image(0);
+        for (int what = 0; what < 4; what++) {
+            x.rule(what, 0);
+        }
+        x.image(1);
+        x.again(0);
+        due("PERMIT 100", x.board(1, 0, 0, 2), 0);
+        x.rule(0, 2400);
+        yes("LOAD 30", x.sail());
+        x.again(0);
+        x.rule(1, 2400);
+        yes("BOUND 30", x.sail());
+        x.ends(false);
+        due("RENT 4", x.tell(1, 7), 40);
+        x.again(1);
+        due("PERMIT 0", x.board(1, 0, 0, 2), 1);
+        x.rule(0, 2400);
+        no("LOAD 0", x.sail());
+        x.again(1);
+        x.rule(1, 2400);
+        no("BOUND 0", x.sail());
+    }
+
     static void keepsTheTape() {
         HoldSlips x = new HoldSlips();
         put(x, "none;none;");
