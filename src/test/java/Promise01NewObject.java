@@ -3,6 +3,10 @@ public final class Promise01NewObject extends Checks {
         runAll(Promise01NewObject.class);
     }
 
+    static void noneIsBelowZeroByOne() {
+        due("NONE", HoldSlips.NONE, -1);
+    }
+
     static void hasNoCitizens() {
         HoldSlips x = new HoldSlips();
         due("CITIZENS", x.count(0), 0);
