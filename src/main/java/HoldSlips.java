@@ -22,7 +22,7 @@ public final class HoldSlips {
 
     private final State now = new State();
     private final State[] images = new State[IMAGES];
-    private final DecreeReader reader = new DecreeReader(now.tape);
+    private final DecreeReader reader = new DecreeReader();
     private final BestSearch search = new BestSearch();
 
     public HoldSlips() {
@@ -50,7 +50,7 @@ public final class HoldSlips {
     }
 
     public int decree() {
-        reader.readTape();
+        reader.read(now.tape);
         now.tape.length = 0;
         now.fault = reader.fault;
         now.faultPlace = reader.place;
@@ -388,7 +388,8 @@ public final class HoldSlips {
         }
 
         private void landBales() {
-            int price = 20000 / (100 + cargo.ladenRoom());
+            int parts = 100 + cargo.ladenRoom();
+            int price = parts > 0 ? 20000 / parts : 0;
             ledger.put(year, YearBook.PRICE, price);
             for (int i = 0; i < cargo.number; i++) {
                 if (cargo.lies(i)) {
@@ -544,14 +545,15 @@ public final class HoldSlips {
         static final int NUMBER = 12;
         static final int NO_TOKEN = 13;
 
-        final Tape tape;
+        final Tape tape = new Tape();
         int token = AT_END;
         int start = 0;
         int next = 0;
         int number = 0;
 
-        TokenReader(Tape tape) {
-            this.tape = tape;
+        void begin(Tape taken) {
+            tape.copyFrom(taken);
+            next = 0;
         }
 
         void step() {
@@ -652,7 +654,7 @@ public final class HoldSlips {
         static final int AMOUNT = 7;
         static final int LINE_END = 8;
 
-        final TokenReader at;
+        final TokenReader at = new TokenReader();
         final Decree text = new Decree();
         int fault = 0;
         int place = NONE;
@@ -665,12 +667,9 @@ public final class HoldSlips {
         int sign = 0;
         int action = 0;
 
-        DecreeReader(Tape tape) {
-            at = new TokenReader(tape);
-        }
-
-        void readTape() {
+        void read(Tape tape) {
             begin();
+            at.begin(tape);
             // Each token takes a byte at least, and the end comes behind the last.
             for (int n = 0; n <= MOST_TAPE; n++) {
                 at.step();
@@ -690,7 +689,6 @@ public final class HoldSlips {
         }
 
         private void begin() {
-            at.next = 0;
             text.lines = 0;
             fault = 0;
             place = NONE;

@@ -65,6 +65,8 @@ public final class FaceTest {
             "constructors");
         for (Class<?> inside : c.getDeclaredClasses()) {
             check(Modifier.isStatic(inside.getModifiers()) && Modifier.isPrivate(inside.getModifiers()), "" + inside);
+            // So no constructor can hand a part of the object that it makes to another one.
+            check(inside.getDeclaredConstructors()[0].getParameterCount() == 0, "a constructor's parameter, " + inside);
             for (Method m : inside.getDeclaredMethods()) {
                 check(!names.contains(m.getName()) && m.getParameterCount() <= 7, "method " + m);
             }
